@@ -1498,9 +1498,9 @@ public final class UtilityWorks {
         static final int CAPACITY = 1;
         static final int UP = 2;
         static final int SPARES = 5;
-        static final int WELLS = 0;
-        static final int BOILERS = 1;
-        static final int CUSTOMERS_SHED = 2;
+        static final int SHED_WELLS = 0;
+        static final int SHED_BOILERS = 1;
+        static final int SHED_CUSTOMERS = 2;
 
         int count;
         final int[][] plants = new int[PLANTS][3];
@@ -1563,7 +1563,9 @@ public final class UtilityWorks {
 
         private void label(Town t) {
             Ways ways = t.ways;
-            System.arraycopy(leads, 0, ways.open, 0, STREETS);
+            for (int s = 0; s < STREETS; s++) {
+                ways.open[s] = leads[s];
+            }
             Arrays.fill(island, NONE);
             for (int c = 0; c < CROSSINGS; c++) {
                 if (island[c] == NONE) {
@@ -1587,13 +1589,13 @@ public final class UtilityWorks {
             for (int w = 0; w < t.water.wellCount; w++) {
                 int[] well = t.water.wells[w];
                 if (well[Water.ON] == 1 && !feed(well[0], tenthUp(well[Water.YIELD]))) {
-                    shedSets[WELLS] |= 1 << w;
+                    shedSets[SHED_WELLS] |= 1 << w;
                 }
             }
             for (int b = 0; b < t.heat.count; b++) {
                 int[] boiler = t.heat.boilers[b];
                 if (boiler[Heat.LIT] == 1 && !feed(boiler[0], Heat.POWER_NEED)) {
-                    shedSets[BOILERS] |= 1 << b;
+                    shedSets[SHED_BOILERS] |= 1 << b;
                 }
             }
             for (int k = 0; k < t.customers.count; k++) {
@@ -1602,7 +1604,7 @@ public final class UtilityWorks {
                 if (need > 0 && feed(t.customers.rows[customer][0], need)) {
                     got[customer] = need;
                 } else if (need > 0) {
-                    shedSets[CUSTOMERS_SHED] |= 1 << customer;
+                    shedSets[SHED_CUSTOMERS] |= 1 << customer;
                 }
             }
         }
@@ -1681,15 +1683,24 @@ public final class UtilityWorks {
             if (what == 2) {
                 return island[crossing];
             }
-            int all = 0;
-            for (int p = 0; what == 3 && p < count; p++) {
-                boolean gives = plants[p][UP] == 1 && island[plants[p][0]] == island[crossing];
-                all += gives ? plants[p][CAPACITY] : 0;
+            return what == 3 ? capacityOf(island[crossing]) : needsOf(island[crossing]);
+        }
+
+        private int capacityOf(int lowest) {
+            int sum = 0;
+            for (int p = 0; p < count; p++) {
+                boolean counts = plants[p][UP] == 1 && island[plants[p][0]] == lowest;
+                sum += counts ? plants[p][CAPACITY] : 0;
             }
-            for (int c = 0; what == 4 && c < CROSSINGS; c++) {
-                all += island[c] == island[crossing] ? needs[c] : 0;
+            return sum;
+        }
+
+        private int needsOf(int lowest) {
+            int sum = 0;
+            for (int c = 0; c < CROSSINGS; c++) {
+                sum += island[c] == lowest ? needs[c] : 0;
             }
-            return all;
+            return sum;
         }
 
         /** The FLOW found anew, behind reckon: the islands are others then. */
@@ -1770,11 +1781,11 @@ public final class UtilityWorks {
                 sums[1] += t.water.isRunning(t, w) ? tenthUp(t.water.wells[w][Water.YIELD]) : 0;
             }
             for (int b = 0; b < t.heat.count; b++) {
-                boolean fed = t.heat.boilers[b][Heat.LIT] == 1 && !isShed(BOILERS, b);
+                boolean fed = t.heat.boilers[b][Heat.LIT] == 1 && !isShed(SHED_BOILERS, b);
                 sums[2] += fed ? Heat.POWER_NEED : 0;
             }
             for (int k = 0; k < t.customers.count; k++) {
-                int is = bit(isShed(CUSTOMERS_SHED, k));
+                int is = bit(isShed(SHED_CUSTOMERS, k));
                 sums[3] += got[k];
                 dark[k] += is;
                 sums[5] += is;
@@ -1894,7 +1905,7 @@ public final class UtilityWorks {
         }
 
         boolean isRunning(Town t, int well) {
-            return wells[well][ON] == 1 && !t.power.isShed(Power.WELLS, well);
+            return wells[well][ON] == 1 && !t.power.isShed(Power.SHED_WELLS, well);
         }
 
         boolean isHole(Grid grid, int street) {
@@ -2311,7 +2322,7 @@ public final class UtilityWorks {
             if (row[LIT] == 0) {
                 return 1;
             }
-            if (t.power.isShed(Power.BOILERS, boiler)) {
+            if (t.power.isShed(Power.SHED_BOILERS, boiler)) {
                 return 2;
             }
             if (t.water.went[Water.TO_BOILERS][row[0]] < waterNeed(boiler)) {
@@ -2539,6 +2550,7 @@ public final class UtilityWorks {
         static final int READ_DAY = 4;
         static final int READ_RIGHT = 5;
         static final int SHOWN = 6;
+        /** meterIs tells the RATE in this place, which is reckoned anew each time. */
         static final int HUNDREDTHS = 7;
         static final int TURNED = 8;
         static final int RIGHT_SUM = 9;
@@ -2804,7 +2816,9 @@ public final class UtilityWorks {
             copyRow(o.countedThen, countedThen);
             copyRow(o.dryThen, dryThen);
             copyLongs(o.credit, credit);
-            System.arraycopy(o.poor, 0, poor, 0, CUSTOMERS);
+            for (int k = 0; k < CUSTOMERS; k++) {
+                poor[k] = o.poor[k];
+            }
             copyLongTable(o.plans, plans);
         }
 

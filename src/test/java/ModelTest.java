@@ -24,9 +24,11 @@ public final class ModelTest {
     private static final Map<String, Integer> ANSWERED = new HashMap<>();
 
     private static final int NONE = -1;
+    private static final int HEAT = 2;
 
     private static int wrong;
     private static int focus;
+    private static int part;
     private static int longest;
 
     /** Calls that change the town, and so are worth more than those that only tell. */
@@ -36,6 +38,23 @@ public final class ModelTest {
             "customer", "need", "connect", "connect", "unseal", "slow", "seal", "read", "estimate", "tariff", "pay",
             "pay", "split", "split", "poor", "fund", "crew", "overtime", "leave", "job", "job", "job", "job", "dropJob",
             "order", "least", "weather", "weather", "draws", "storm", "storm", "alarm", "report");
+
+    /** Of a run that is about one part, what changes: POWER, WATER, HEAT, books, crews. */
+    private static final List<List<String>> PARTS = List.of(
+            List.of("turn", "turn", "turn", "bound", "bound", "lay", "breaks", "plant", "start", "need", "connect",
+                    "customer", "pump", "light", "pass", "pass", "storm", "weather", "height", "job"),
+            List.of("turn", "bound", "bound", "bound", "lay", "breaks", "height", "height", "well", "tank", "pump",
+                    "reserve", "leak", "leak", "fire", "need", "connect", "customer", "weather", "pass", "pass", "pass",
+                    "light", "boiler", "start", "report"),
+            List.of("turn", "bound", "bound", "bound", "bound", "lay", "breaks", "weather", "weather", "weather",
+                    "need", "need", "connect", "connect", "customer", "boiler", "coal", "coal", "order", "light",
+                    "light", "pass", "pass", "report"),
+            List.of("pass", "pass", "pass", "pay", "pay", "split", "poor", "fund", "tariff", "read", "estimate",
+                    "connect", "need", "unseal", "slow", "seal", "customer", "coal", "order", "turn", "job", "dropJob",
+                    "keep", "bring"),
+            List.of("job", "job", "job", "job", "dropJob", "leave", "overtime", "crew", "permit", "permit", "share",
+                    "drop", "hire", "hire", "breaks", "breaks", "order", "least", "weather", "alarm", "alarm", "storm",
+                    "surface", "market", "height", "pass", "pass", "pass", "lay", "keep", "bring"));
 
     private static List<Method> face() {
         List<Method> all = new ArrayList<>();
@@ -186,6 +205,14 @@ public final class ModelTest {
             args[2] = day + (random.nextInt(3) == 0 ? random.nextInt(8) : 0);
         }
         focus(random, m.getName(), args);
+        if (part <= 2 && List.of("turn", "bound", "lay", "breaks", "need", "connect").contains(m.getName())) {
+            int at = m.getName().equals("need") || m.getName().equals("connect") ? 1 : 0;
+            args[at] = random.nextInt(4) > 0 ? part : args[at];
+        }
+        if (part == HEAT && m.getName().equals("weather")) {
+            args[0] = around(random, -30, 20);
+            args[2] = random.nextInt(4);
+        }
         if (m.getName().equals("job")) {
             int kind = (Integer) args[0];
             if (kind == 0 || kind == 2 || kind == 3) {
@@ -265,6 +292,23 @@ public final class ModelTest {
         return true;
     }
 
+    /** Lays more LINKS of the run's part, so that there are ways and rings to choose from. */
+    private static boolean layMore(int run, UtilityWorks x, Model model, Random random) {
+        boolean alike = true;
+        for (int s = 0; s < 17; s++) {
+            if (random.nextInt(2) == 0) {
+                int bound = around(random, 5, 80);
+                alike = alike && compare(run, -1, x, model, named("permit"), new Object[] {part, s, 0, 1})
+                        && compare(run, -1, x, model, named("hire"), new Object[] {s, true})
+                        && compare(run, -1, x, model, named("lay"), new Object[] {part, s, bound})
+                        && compare(run, -1, x, model, named("turn"), new Object[] {part, s, true})
+                        && compare(run, -1, x, model, named("hire"), new Object[] {s, false})
+                        && compare(run, -1, x, model, named("drop"), new Object[] {0});
+            }
+        }
+        return alike;
+    }
+
     private static void run(int number) {
         Random random = new Random(SEED * 1000003 + number);
         UtilityWorks x = new UtilityWorks();
@@ -273,9 +317,14 @@ public final class ModelTest {
         int changes = 1 + random.nextInt(4);
         focus = random.nextInt(17);
         longest = new int[] {3, 12, 30, 60}[random.nextInt(4)];
+        part = random.nextInt(PARTS.size() + 1);
+        List<String> changing = part < PARTS.size() ? PARTS.get(part) : CHANGING;
+        if (part <= HEAT && !layMore(number, x, model, random)) {
+            return;
+        }
         for (int n = 0; n < CALLS; n++) {
             boolean change = random.nextInt(5) < changes;
-            Method m = change ? named(CHANGING.get(random.nextInt(CHANGING.size())))
+            Method m = change ? named(changing.get(random.nextInt(changing.size())))
                     : FACE.get(random.nextInt(FACE.size()));
             if (!compare(number, n, x, model, m, arguments(random, m, x.count(0)))) {
                 return;
