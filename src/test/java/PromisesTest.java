@@ -130,7 +130,7 @@ public final class PromisesTest {
         due("its bound", x.linkIs(0, 3, 1), 50);
         due("sound", x.linkIs(0, 3, 2), 1);
         due("off", x.linkIs(0, 3, 3), 0);
-        due("money", x.journal(0), 97000);
+        due("money of laying", x.journal(0), 97000);
         thrown("lay again", NO_STATE, () -> x.lay(0, 3, 50));
         thrown("a ring", NO_STATE, () -> x.turn(0, 3, true));
         due("still off", x.linkIs(0, 3, 3), 0);
@@ -140,12 +140,29 @@ public final class PromisesTest {
         thrown("a ring", NO_STATE, () -> x.turn(0, 10, true));
         x.breaks(0, 10);
         due("a broken line closes no ring", x.turn(0, 10, true), false);
+        x.job(2, 0, 10, 9);
+        x.pass(3);
+        due("mended", x.linkIs(0, 10, 2), 1);
+        due("off, as it would close one", x.linkIs(0, 10, 3), 0);
+        x.breaks(0, 3);
+        x.turn(0, 10, true);
+        x.turn(0, 3, false);
+        x.job(2, 0, 3, 9);
+        x.pass(4);
+        x.turn(0, 10, false);
+        x.breaks(0, 10);
+        x.turn(0, 10, true);
+        x.job(2, 0, 10, 9);
+        x.pass(4);
+        due("on, as it closes none", x.linkIs(0, 10, 4), 1);
+        due("money", x.journal(0), 97000 - x.spent(0));
+        x.pay(0, (int) x.spent(0));
         thrown("lay a pipe undug", NO_STATE, () -> x.lay(1, 3, 10));
         thrown("lay", NO_RANGE, () -> x.lay(1, 3, 0));
         thrown("lay", NO_RANGE, () -> x.lay(1, 3, 1000));
         thrown("lay", NO_THING, () -> x.lay(1, 17, 1000));
         due("money stays", x.journal(0), 97000);
-        x.permit(2, 3, 0, 1);
+        x.permit(2, 3, x.count(0), 1);
         x.hire(3, true);
         due("lay a pipe", x.lay(1, 3, 10), 8);
         due("lay a main", x.lay(2, 3, 999), 5);
@@ -934,6 +951,16 @@ public final class PromisesTest {
         due("counted right", x.meterIs(0, 0, 3), 93);
         thrown("read", NO_THING, () -> x.read(6, 0));
         thrown("estimate", NO_THING, () -> x.estimate(0, 3));
+        UtilityWorks z = new UtilityWorks();
+        z.need(0, 0, 20);
+        passDays(z, 499);
+        due("read", z.read(0, 0), 9980);
+        passDays(z, 1);
+        due("0 behind 9999", z.meterIs(0, 0, 0), 0);
+        due("turned", z.meterIs(0, 0, 8), 10000);
+        passDays(z, 1);
+        due("read going on", z.read(0, 0), 40);
+        due("counted", z.meterIs(0, 0, 3), 10020);
         UtilityWorks y = new UtilityWorks();
         y.pass(4);
         y.customer(0, 0);
@@ -1016,6 +1043,12 @@ public final class PromisesTest {
         due("all paid", x.planIs(5, 0), 0);
         due("not failed", x.planIs(5, 3), 1);
         due("owes", x.owes(5), 0);
+        long rest = x.owes(4);
+        while (rest > 2) {
+            rest = x.pay(4, (int) Math.min(99999, rest - 2));
+        }
+        thrown("owes less than the parts", NO_STATE, () -> x.split(4, 3));
+        due("owes as much", x.split(4, 2), 1);
         thrown("planIs", NO_THING, () -> x.planIs(6, 4));
         thrownFor("planIs", NO_RANGE, what -> x.planIs(0, what), -1, 4);
     }
@@ -1187,6 +1220,16 @@ public final class PromisesTest {
         due("not now", x.way(5, 6), 1);
         x.weather(10, 0, 0);
         due("no flood", x.nextJob(1), 1);
+        int seed = 0;
+        while ((75 * seed + 74) % 65537 / 310 % 10 != 9) {
+            seed++;
+        }
+        x.draws(seed);
+        due("flooded by what will be drawn", x.nextJob(1), -1);
+        due("nothing is drawn yet", x.weatherIs(4), seed);
+        x.pass(1);
+        due("so it was", x.crewIs(1, 3), -1);
+        due("rain", x.weatherIs(2), 9);
         thrownFor("nextJob", NO_THING, x::nextJob, -1, 2);
         UtilityWorks y = new UtilityWorks();
         y.pass(2);
@@ -1411,7 +1454,13 @@ public final class PromisesTest {
         y.lay(0, 3, 60);
         y.breaks(0, 10);
         y.turn(0, 3, true);
+        y.bound(0, 0, 10);
+        y.bound(0, 9, 35);
         due("a line that would close a ring is off", y.gain(0, 10), 0);
+        due("it does not help", y.mending(1), -1);
+        y.turn(0, 3, false);
+        y.bound(0, 0, 60);
+        due("one that closes none is on", y.gain(0, 10) > 0, true);
         UtilityWorks z = new UtilityWorks();
         z.turn(0, 14, false);
         z.pass(2);
