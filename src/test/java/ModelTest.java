@@ -306,6 +306,22 @@ public final class ModelTest {
                         && compare(run, -1, x, model, named("drop"), new Object[] {0});
             }
         }
+        return alike && (part != HEAT || warmMore(run, x, model, random));
+    }
+
+    /** Builds and lights a second BOILER, and tells CUSTOMERS who NEED much HEAT. */
+    private static boolean warmMore(int run, UtilityWorks x, Model model, Random random) {
+        int at = new int[] {0, 2, 3, 4, 5}[random.nextInt(5)];
+        boolean alike = compare(run, -1, x, model, named("boiler"), new Object[] {at, around(random, 10, 150)})
+                && compare(run, -1, x, model, named("coal"), new Object[] {1, around(random, 1, 150)})
+                && compare(run, -1, x, model, named("light"), new Object[] {1, true})
+                && compare(run, -1, x, model, named("start"), new Object[] {1, true});
+        for (int customer = 6; customer < 9; customer++) {
+            alike = alike
+                    && compare(run, -1, x, model, named("customer"), new Object[] {random.nextInt(12), 9})
+                    && compare(run, -1, x, model, named("need"), new Object[] {customer, HEAT, random.nextInt(21)})
+                    && compare(run, -1, x, model, named("connect"), new Object[] {customer, HEAT, true});
+        }
         return alike;
     }
 

@@ -820,6 +820,36 @@ public final class PromisesTest {
         x.pass(1);
         due("no fuel", x.boilerIs(0, 5), 4);
         thrown("light", NO_THING, () -> x.light(1, true));
+        twoBoilers();
+    }
+
+    /** Two BOILERS: the nearer one first, then the other for what is wanted yet. */
+    private static void twoBoilers() {
+        UtilityWorks x = new UtilityWorks();
+        x.boiler(0, 100);
+        x.coal(1, 100);
+        x.light(1, true);
+        x.bound(2, 9, 2);
+        x.customer(0, 9);
+        x.need(6, 2, 10);
+        x.connect(6, 2, true);
+        due("its own boiler first", x.heatAt(0, 1), 8);
+        due("half of its capacity", x.boilerIs(1, 6), 50);
+        due("by the narrow main", x.heatAt(4, 1), 1);
+        due("it makes for two crossings", x.boilerIs(1, 7), 10);
+        x.bound(2, 9, 30);
+        x.bound(2, 10, 30);
+        x.need(0, 2, 20);
+        x.need(3, 2, 20);
+        x.weather(-12, 0, 0);
+        due("wants", x.heatAt(5, 0), 60);
+        due("the nearer one sends all the main takes", x.mainIs(10, 0), 30);
+        due("nothing more for it", x.heatAt(5, 1), 26);
+        due("both along the other main", x.mainIs(9, 0), 20 + 10);
+        due("by the further one through two", x.mainIs(0, 1), 13);
+        due("what comes there", x.heatAt(4, 1), 17 + 8);
+        due("what the nearer one makes", x.boilerIs(0, 7), 9 + 30 + 13);
+        due("what is left of half its capacity", x.boilerIs(1, 7), 50);
     }
 
     private static void promise16() {
@@ -1063,6 +1093,10 @@ public final class PromisesTest {
         due("money", x.journal(0), 94999);
         thrownFor("fund", NO_RANGE, x::fund, 0, 100000);
         thrown("more than there is", NO_STATE, () -> x.fund(95000));
+        UtilityWorks z = new UtilityWorks();
+        z.fund(99999);
+        due("all that there is", z.fund(1), 100000);
+        thrown("nothing is left", NO_STATE, () -> z.fund(1));
         due("no bills", x.bills(0), 0);
         thrown("billIs", NO_THING, () -> x.billIs(0, 0, 8));
         passDays(x, 29);
