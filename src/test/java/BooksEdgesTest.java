@@ -419,6 +419,10 @@ public final class BooksEdgesTest {
         Edges.passTo(x, 79);
         Edges.due("notice", x.notice(0, 0), 3);
         Edges.refused("the rank 0", Edges.NO_THING, () -> x.jobIs(0, 0));
+        UtilityWorks v = Edges.quiet();
+        Edges.customer(v, 0, 1, 0, 2);
+        Edges.passTo(v, 71);
+        Edges.due("the rank 1", v.jobIs(0, 2), 6);
         UtilityWorks y = billed();
         y.connect(5, 0, false);
         Edges.passTo(y, 79);
@@ -562,6 +566,17 @@ public final class BooksEdgesTest {
         Edges.due("pay ahead", x.pay(0, 5), -5);
         Edges.due("owed", x.journal(1), -5);
         Edges.due("paid", x.journal(4), 5);
+    }
+
+    /** The TARIFFS at first: BASE, PRICE, STEP, DEAR price. */
+    static void theTariffsAtFirst() {
+        UtilityWorks x = new UtilityWorks();
+        int[][] first = {{300, 20, 100, 30}, {200, 10, 60, 15}, {400, 25, 80, 40}};
+        for (int good = 0; good < 3; good++) {
+            for (int what = 0; what < 4; what++) {
+                Edges.due("tariff " + what + " of " + good, x.tariff(good, what, 0), first[good][what]);
+            }
+        }
     }
 
     /** tariff: as it is when the BILL is made. */

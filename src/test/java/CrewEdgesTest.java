@@ -128,6 +128,52 @@ public final class CrewEdgesTest {
         Edges.due("the job that it has", x.nextJob(0), 0);
     }
 
+    /** nextJob: the weather is drawn, if it is to be: the RAIN of the SEED that comes. */
+    static void nextJobByTheRainThatIsDrawn() {
+        for (int k = 1; k <= 12; k++) {
+            for (int less = 0; less < 2; less++) {
+                int rain = (k - less) % 10;
+                int before = seedAhead(310 * k - less);
+                UtilityWorks x = new UtilityWorks();
+                x.breaks(0, 1);
+                x.job(MEND, 0, 1, 5);
+                x.draws(before);
+                for (int c : new int[] {0, 1, 4}) {
+                    x.height(c, 2 * rain);
+                }
+                Edges.due("dry at twice the rain of " + (310 * k - less), x.nextJob(0), 0);
+                for (int c : new int[] {0, 1, 4}) {
+                    x.height(c, Math.max(0, 2 * rain - 1));
+                }
+                Edges.due("flooded below it", x.nextJob(0), rain == 0 ? 0 : -1);
+                x.pass(1);
+                Edges.due("so it was", x.crewIs(0, 3), rain == 0 ? 0 : -1);
+                Edges.due("the rain", x.weatherIs(2), rain);
+            }
+        }
+    }
+
+    private static int seedAhead(int next) {
+        int seed = 0;
+        while ((75 * seed + 74) % 65537 != next) {
+            seed++;
+        }
+        return seed;
+    }
+
+    /** nextJob: with the STREETS that are DUG now, whatever was asked ahead of it. */
+    static void nextJobRoundADugStreet() {
+        UtilityWorks x = new UtilityWorks();
+        Edges.dig(x, 0);
+        x.job(FILL, 0, 1, 0);
+        x.job(FILL, 0, 3, 0);
+        x.joined(0, 0, 1);
+        Edges.due("the way to 1 has three streets", x.nextJob(0), 1);
+        x.hire(0, false);
+        x.joined(2, 11, 0);
+        Edges.due("now it has one", x.nextJob(0), 0);
+    }
+
     /** By so many STREETS as its PACE at most; a SPELL on the DAY on which it is there. */
     static void itGoesByItsPace() {
         int[] path = {3, 2, 1, 0, 4};
@@ -241,6 +287,17 @@ public final class CrewEdgesTest {
         x.pass(1);
         Edges.due("no jobs", x.spent(0), 1800);
         Edges.due("from the money", x.journal(0), 100000 - 1800);
+    }
+
+    /** overtime: whether it did; not at first. */
+    static void overtimeOrNot() {
+        UtilityWorks x = new UtilityWorks();
+        Edges.due("not at first", x.overtime(1, true), false);
+        Edges.due("it did", x.overtime(1, true), true);
+        Edges.due("it does", x.crewIs(1, 5) * 10 + x.crewIs(0, 5), 10);
+        Edges.due("it did", x.overtime(1, false), true);
+        Edges.due("it did not", x.overtime(1, false), false);
+        Edges.due("it does not", x.crewIs(1, 5), 0);
     }
 
     /** DIG lacks something, if there is no PERMIT of today for the GOOD there; SHARED ones are for these, too. */
@@ -411,13 +468,16 @@ public final class CrewEdgesTest {
     static void readTheMetersOfAllGoods() {
         UtilityWorks x = new UtilityWorks();
         x.pass(3);
-        x.job(READ, 0, 5, 0);
+        x.job(READ, 0, 4, 0);
         x.pass(1);
+        int[] counted = {12, 9, 0};
         for (int good = 0; good < 3; good++) {
-            Edges.due("read on", x.meterIs(5, good, 4), 3);
-            Edges.due("right", x.meterIs(5, good, 5), 1);
-            Edges.due("counted", x.meterIs(5, good, 3), good == 0 ? 21 : 0);
-            Edges.due("of others", x.meterIs(0, good, 4), -1);
+            Edges.due("read on", x.meterIs(4, good, 4), 3);
+            Edges.due("right", x.meterIs(4, good, 5), 1);
+            Edges.due("counted", x.meterIs(4, good, 3), counted[good]);
+            for (int other : new int[] {0, 1, 2, 3, 5}) {
+                Edges.due("of others", x.meterIs(other, good, 4), -1);
+            }
         }
     }
 
@@ -532,6 +592,19 @@ public final class CrewEdgesTest {
         Edges.due("full", x.storeIs(3, 0), 999);
         Edges.due("two more are gone", x.storeIs(3, 6), 3);
         Edges.due("sound", x.isSoundCrews(), true);
+    }
+
+    /** least: 0 to 99; storeIs tells it. */
+    static void theLeastOfEachPart() {
+        UtilityWorks x = new UtilityWorks();
+        for (int part = 0; part < 4; part++) {
+            Edges.due("at first", x.least(part, 99), 0);
+            Edges.due("told", x.storeIs(part, 2), 99);
+            Edges.due("what it was", x.least(part, part), 99);
+            Edges.due("told", x.storeIs(part, 2), part);
+            Edges.due("nothing is ordered yet", x.storeIs(part, 1), 0);
+        }
+        Edges.due("nothing is spent yet", x.spent(1), 0);
     }
 
     /** Fewer than its LEAST: so many are ordered that they are twice its LEAST. */

@@ -187,8 +187,13 @@ public final class HeatEdgesTest {
         Edges.due("no more than that", x.mainIs(10, 0), 23);
         x.need(3, 2, 20);
         x.connect(3, 2, true);
+        int[][] rooms = {{1, 0}, {2, 302}, {3, 403}, {4, 504}, {5, 605}, {6, 706}, {7, 807}, {8, 908}, {9, 1109},
+            {10, 1210}, {17, 1917}, {18, 2118}};
+        for (int[] r : rooms) {
+            x.bound(2, 9, r[0]);
+            Edges.due("the second main has room for " + r[0], x.mainIs(0, 1) * 100 + x.mainIs(9, 0), r[1]);
+        }
         x.bound(2, 9, 9);
-        Edges.due("the second main has room for 9", x.mainIs(0, 1) * 100 + x.mainIs(9, 0), 1109);
         x.bound(2, 0, 10);
         Edges.due("the first one for 10", x.mainIs(0, 1) * 100 + x.mainIs(9, 0), 1009);
     }
@@ -435,6 +440,17 @@ public final class HeatEdgesTest {
         x.breaks(2, 10);
         Edges.due("broken", x.heatWithout(10), 0);
         Edges.due("it stays on", x.linkIs(2, 10, 3), 1);
+    }
+
+    /** What comes to the CROSSING 0 counts as all other. */
+    static void heatAtTheFirstCrossing() {
+        UtilityWorks x = warm();
+        Edges.customer(x, 0, 0, 2, 9);
+        Edges.due("without the main", x.heatWithout(0), 1);
+        x.pass(1);
+        Edges.due("got", x.heatSum(1), 9);
+        Edges.due("lost", x.heatSum(2), 1);
+        Edges.due("sound", x.isSoundHeat(), true);
     }
 
     /** heatSum: since the beginning; nothing at first. */

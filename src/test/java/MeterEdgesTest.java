@@ -72,6 +72,12 @@ public final class MeterEdgesTest {
         x.pass(1);
         Edges.due("190", x.meterIs(0, 0, 0), 2);
         Edges.due("sound", x.isSoundMeters(), true);
+        UtilityWorks y = fed(1);
+        y.unseal(0, 0);
+        y.slow(0, 0, 1);
+        y.pass(1);
+        Edges.due("99 hundredths", y.meterIs(0, 0, 8), 0);
+        Edges.due("sound with 99", y.isSoundMeters(), true);
         x.unseal(0, 0);
         x.slow(0, 0, 1);
         x.pass(1);

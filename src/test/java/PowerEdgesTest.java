@@ -192,6 +192,35 @@ public final class PowerEdgesTest {
         }
     }
 
+    /** flowAnew asked alone, behind a change. */
+    static void flowsAreFoundAnew() {
+        UtilityWorks x = Edges.quiet();
+        x.start(1, false);
+        x.connect(0, 0, true);
+        Edges.due("anew", x.flowAnew(10), 12);
+        x.need(0, 0, 7);
+        Edges.due("anew", x.flowAnew(0), 7);
+        x.bound(0, 0, 6);
+        Edges.due("sound", x.isSoundPower(), true);
+        Edges.due("behind all trips", x.flowAnew(10), 0);
+    }
+
+    /** USERS at the CROSSING 0 and at the CROSSING 11 count as all others. */
+    static void usersAtTheFirstAndTheLastCrossing() {
+        UtilityWorks x = Edges.quiet();
+        Edges.customer(x, 0, 0, 0, 5);
+        Edges.customer(x, 11, 0, 0, 6);
+        Edges.due("needs", x.powerAt(0, 0) * 10 + x.powerAt(11, 0), 56);
+        Edges.due("gets", x.powerAt(0, 1) * 10 + x.powerAt(11, 1), 56);
+        Edges.due("all need", x.powerAt(3, 4), 11);
+        Edges.due("gives", x.plantIs(0, 3) * 10 + x.plantIs(1, 3), 110);
+        Edges.due("to the last one", x.lineIs(16, 0), 6);
+        x.turn(0, 16, false);
+        Edges.due("each its own", x.plantIs(0, 3) * 10 + x.plantIs(1, 3), 56);
+        x.start(0, false);
+        Edges.due("shed", x.shed(2), 1 << 6);
+    }
+
     /** A quiet town in which 12 go from the PLANT 0 by the STREETS 0 and 10 to the CUSTOMER 0. */
     private static UtilityWorks line() {
         UtilityWorks x = Edges.quiet();
@@ -225,6 +254,7 @@ public final class PowerEdgesTest {
         UtilityWorks x = line();
         x.bound(0, 10, 12);
         Edges.due("at its bound", x.lineIs(10, 1), 1);
+        Edges.due("sound at its bound", x.isSoundPower(), true);
         x.pass(1);
         Edges.due("no trip", x.powerSum(4), 0);
         x.bound(0, 10, 11);
@@ -377,6 +407,12 @@ public final class PowerEdgesTest {
         Edges.due("both are needed now", x.switching(1), 1 + (1 << 10));
         x.bound(0, 3, 12);
         Edges.due("the fewest lines", x.switching(1), 1 << 3);
+        UtilityWorks y = line();
+        y.turn(0, 0, false);
+        y.turn(0, 10, false);
+        y.turn(0, 16, false);
+        Edges.due("two that help, not one that does not", y.switching(1), 1 + (1 << 10));
+        Edges.due("worth", y.switching(0), 12);
     }
 
     /** A LINE that is TRIPPED is SOUND and OFF, too. */

@@ -260,8 +260,8 @@ public final class RangesTest {
                 left = 400;
             }
         }
-        for (int first = 0; first < all.size(); first += 180) {
-            List<Asked> some = all.subList(first, Math.min(all.size(), first + 180));
+        for (int first = 0; first < all.size(); first += 150) {
+            List<Asked> some = all.subList(first, Math.min(all.size(), first + 150));
             Supplier<UtilityWorks> refusing = () -> asked(made.get(), some);
             View.same(what + ", refused " + first + " and on", View.of(refusing), now);
             View.same(what + ", refused " + first + " and on, then", View.of(() -> goneOn(refusing.get())), then);

@@ -385,6 +385,7 @@ public final class RefusedTest {
         Edges.due("one is dropped", x.dropJob(3), 15);
         Edges.due("one more", x.job(4, 0, 0, 0), 16);
         Edges.refused("16 again", Edges.NO_STATE, () -> x.job(4, 0, 0, 0));
+        Edges.due("sound with 16", x.isSoundCrews(), true);
     }
 
     private static void jobs(UtilityWorks x, int many) {

@@ -99,8 +99,9 @@ public final class StormEdgesTest {
     /** Its number can be given again, the lowest that none has. */
     static void numbersOfStormsAreGivenAgain() {
         UtilityWorks x = new UtilityWorks();
-        x.storm(0, 1);
+        x.storm(0, 9);
         x.pass(2);
+        Edges.due("lines it broke", x.stormIs(0, 3) > 0, true);
         Edges.due("storm", x.storm(1, 2), 1);
         Edges.due("storm", x.storm(1, 3), 2);
         x.pass(3);
@@ -372,6 +373,13 @@ public final class StormEdgesTest {
         x.breaks(1, 2);
         mends(x, 15);
         Edges.due("nothing changes", x.count(5), 4);
+        UtilityWorks y = new UtilityWorks();
+        y.start(1, false);
+        y.breaks(0, 0);
+        Edges.due("the first link of all", y.mending(1), 0);
+        UtilityWorks z = new UtilityWorks();
+        z.breaks(2, 10);
+        Edges.due("a main", z.mending(1), 44);
     }
 
     /** Of the first four of these, by GOODS, then by STREETS. */
@@ -400,6 +408,16 @@ public final class StormEdgesTest {
         mends(x, 5 + 6 + 6, 10, 9);
         x.breaks(0, 14);
         mends(x, 4 + 5 + 6, 9, 10, 14);
+        UtilityWorks y = Edges.quiet();
+        for (int k : new int[] {0, 3, 4, 5}) {
+            y.connect(k, 0, true);
+        }
+        Edges.customer(y, 5, 9, 0, 1);
+        Edges.customer(y, 6, 9, 0, 1);
+        for (int s : new int[] {9, 10, 11}) {
+            y.breaks(0, s);
+        }
+        mends(y, 5 + 7 + 8, 10, 11, 9);
     }
 
     /** Of several the fewest LINKS, of these the first by their places; a LINE that would close a ring is OFF. */
@@ -414,6 +432,22 @@ public final class StormEdgesTest {
         mends(x, 18, 10);
         x.bound(0, 10, 11);
         mends(x, 15);
+    }
+
+    /** The same, where orders of more LINKS that have as much WORTH begin with a LINK of a lower place. */
+    static void theFewestLinksWhereverTheyStand() {
+        UtilityWorks x = new UtilityWorks();
+        x.plant(6, 2);
+        x.bound(0, 0, 25);
+        for (int s : new int[] {0, 1, 13}) {
+            x.breaks(0, s);
+        }
+        mends(x, 12, 1);
+        UtilityWorks y = new UtilityWorks();
+        for (int s : new int[] {1, 9, 12, 16}) {
+            y.breaks(0, s);
+        }
+        mends(y, 13, 12, 16);
     }
 
     /** The same: which of two comes first decides which of them is ON. */

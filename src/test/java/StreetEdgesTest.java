@@ -19,6 +19,7 @@ public final class StreetEdgesTest {
         UtilityWorks x = new UtilityWorks();
         x.permit(0, 3, 0, 1);
         x.permit(1, 4, 0, 9);
+        Edges.due("sound on its last day", x.isSoundStreets(), true);
         Edges.due("last day", x.permitIs(0, 3), 0);
         Edges.due("last day", x.permitIs(1, 3), 8);
         x.pass(1);
@@ -93,6 +94,9 @@ public final class StreetEdgesTest {
     static void reason2() {
         UtilityWorks x = new UtilityWorks();
         x.permit(2, 3, 4, 3);
+        x.permit(2, 3, 3, 1);
+        Edges.due("sound with one behind the other", x.isSoundStreets(), true);
+        x.drop(1);
         Edges.due("up to the day ahead of it", x.may(3, 2, 2), 0);
         Edges.due("up to its first day", x.may(3, 2, 3), 2);
         Edges.due("within it", x.may(3, 5, 1), 2);
@@ -293,14 +297,15 @@ public final class StreetEdgesTest {
         x.hire(3, false);
         x.pass(1);
         Edges.due("filled", x.streetIs(3, 8), 2);
-        money = x.journal(0);
         Edges.dig(x, 3);
-        Edges.dig(x, 4);
+        Edges.dig(x, 0);
+        Edges.dig(x, 16);
         money = x.journal(0);
         x.pass(2);
-        Edges.due("two streets, two days", money - x.journal(0), 4 * 1000 + 2 * 200);
+        Edges.due("three streets, two days", money - x.journal(0), 6 * 1000 + 2 * 200);
         Edges.due("fines of 3", x.streetIs(3, 8), 4);
-        Edges.due("fines of 4", x.streetIs(4, 8), 2);
+        Edges.due("fines of 0", x.streetIs(0, 8), 2);
+        Edges.due("fines of 16", x.streetIs(16, 8), 2);
     }
 
     /** CLOSED, if it is DUG or FLOODED. */
@@ -349,6 +354,21 @@ public final class StreetEdgesTest {
         Edges.dig(x, 1);
         steps(x, 0, 3, 0, 10, 4, 11, 2);
         steps(x, 0, 11, 0, 10, 4, 5, 16);
+    }
+
+    /** wayIs asked alone, behind calls that look at other things. */
+    static void aWayIsFoundAnewForEachStreet() {
+        UtilityWorks x = new UtilityWorks();
+        Edges.dig(x, 0);
+        x.joined(0, 0, 1);
+        Edges.due("round it", x.wayIs(0, 1, 0), 9);
+        x.joined(2, 0, 1);
+        Edges.due("and back", x.wayIs(0, 1, 2), 10);
+        x.hire(0, false);
+        x.joined(1, 11, 0);
+        Edges.due("as it is filled", x.wayIs(0, 1, 0), 0);
+        x.joined(1, 11, 0);
+        Edges.due("where no link leads", x.way(0, 11), 5);
     }
 
     private static void steps(UtilityWorks x, int from, int to, int... streets) {

@@ -272,6 +272,13 @@ public final class TownEdgesTest {
         x.slow(0, 0, 33);
         x.pass(31);
         x.split(2, 3);
+        x.job(2, 1, 13, 4);
+        x.job(0, 0, 16, 7);
+        x.order(1, 4);
+        x.permit(2, 5, 33, 3);
+        x.poor(0, true);
+        x.pass(1);
+        x.storm(2, 4);
         x.keep(0);
         x.keep(1);
         return x;
@@ -308,6 +315,7 @@ public final class TownEdgesTest {
         x.pay(2, 99);
         x.split(3, 4);
         x.poor(2, true);
+        x.poor(0, false);
         x.fund(800);
         x.crew(9, 4, 1);
         x.overtime(0, true);

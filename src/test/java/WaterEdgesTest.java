@@ -72,6 +72,12 @@ public final class WaterEdgesTest {
         Edges.due("higher up", x.wellIs(2, 6), 99);
         x.height(8, 99);
         Edges.due("above all", x.wellIs(0, 6), 149);
+        UtilityWorks y = twoTanks();
+        y.tank(0, 9, 0);
+        int[] heads = {15, 4, 4, 0};
+        for (int tank = 0; tank < 4; tank++) {
+            Edges.due("the head of the tank " + tank, y.tankIs(tank, 4), heads[tank]);
+        }
     }
 
     /** By no CROSSING, the last one with them, that is higher than the HEAD of the SOURCE as the DAY begins. */
@@ -114,6 +120,12 @@ public final class WaterEdgesTest {
         x.turn(1, 0, true);
         Edges.due("on it is one", x.pipeIs(0, 5) * 100 + x.waterAt(1, 0), 140);
         Edges.due("a sound one is none", x.pipeIs(2, 5), 0);
+        UtilityWorks y = Edges.quiet();
+        y.breaks(1, 0);
+        y.height(1, 0);
+        Edges.due("it gets what it wants", y.waterAt(1, 1) * 100 + y.waterAt(1, 2), 2020);
+        y.pass(1);
+        Edges.due("holes took that", y.waterSum(4), 20);
     }
 
     /** For each PIPE that LEADS, and for which it is the end with the lower number, the LEAK. */
@@ -252,6 +264,14 @@ public final class WaterEdgesTest {
         x.need(customer, 1, 0);
         x.reserve(1, 39);
         Edges.due("but for its reserve", x.tankIs(1, 5) * 100 + x.tankIs(2, 5), 3900 + 40 - 26);
+        UtilityWorks y = twoTanks();
+        Edges.customer(y, 4, 0, 1, 9);
+        Edges.customer(y, 1, 0, 1, 8);
+        Edges.customer(y, 0, 0, 1, 7);
+        Edges.due("9 and 7 of the first, 8 of the other", y.tankIs(1, 5) * 100 + y.tankIs(2, 5), 2432);
+        y.pump(0, true);
+        Edges.due("what they give is filled again", y.tankIs(1, 5) * 100 + y.tankIs(2, 5), 4040);
+        Edges.due("by the well", y.wellIs(0, 5), 16 + 8);
     }
 
     /** A WAY: the fewest PIPES, then the first by the numbers of its CROSSINGS; along PIPES that have room left. */
@@ -490,6 +510,51 @@ public final class WaterEdgesTest {
         Edges.due("a hole gets less", x.waterWithout(13), 1 << 8);
         x.turn(1, 13, false);
         Edges.due("off it is none", x.waterWithout(13), 0);
+    }
+
+    /** waterAnew: what comes, less what goes, and what a TANK there is filled by. */
+    static void whatIsGotFoundAnew() {
+        UtilityWorks x = new UtilityWorks();
+        int[] gets = {0, 10, 0, 3, 5, 8, 0, 0, 0, 3, 0, 0};
+        for (int c = 0; c < 12; c++) {
+            Edges.due("at first, " + c, x.waterAnew(c), gets[c]);
+        }
+        x.connect(1, 1, false);
+        Edges.due("one customer less", x.waterAnew(1), 6);
+        x.light(0, false);
+        Edges.due("no boiler", x.waterAnew(1), 0);
+        x.breaks(1, 9);
+        Edges.due("a hole at a crossing that is cut off from 0", x.waterAnew(4), 25);
+        x.turn(1, 13, false);
+        Edges.due("nothing comes", x.waterAnew(4), 0);
+        x.pump(1, false);
+        x.reserve(0, 143);
+        Edges.due("the tank's own first", x.waterAnew(3), 3);
+        Edges.due("then the nearer one", x.waterAnew(5), 4);
+        Edges.due("nothing is left", x.waterAnew(9), 0);
+    }
+
+    /** The same, where the first CROSSING and the last one get less. */
+    static void whoWouldGetLessAtTheEnds() {
+        UtilityWorks x = Edges.quiet();
+        Edges.customer(x, 0, 0, 1, 5);
+        Edges.due("at 0", x.waterWithout(0), 1);
+        Edges.layUnder(x, 1, 12, 40);
+        Edges.layUnder(x, 1, 16, 40);
+        Edges.customer(x, 11, 0, 1, 5);
+        Edges.due("at 11", x.waterWithout(16), 1 << 11);
+    }
+
+    /** isSoundWater asked alone, behind a change. */
+    static void soundBehindAChange() {
+        UtilityWorks x = new UtilityWorks();
+        Edges.due("goes along", x.pipeIs(0, 2), 35);
+        x.bound(1, 0, 1);
+        Edges.due("sound", x.isSoundWater(), true);
+        x.bound(1, 0, 40);
+        Edges.due("goes along", x.mainIs(10, 0), 9);
+        x.bound(2, 10, 1);
+        Edges.due("sound", x.isSoundHeat(), true);
     }
 
     /** waterSum: since the beginning; the LEVELS now. */
