@@ -1078,7 +1078,8 @@ public final class PromisesTest {
         due("interest", x.billIs(5, 0, 7), 5390 + 53);
         UtilityWorks y = new UtilityWorks();
         passDays(y, 31);
-        y.slow(y.unseal(5, 0) * 0 + 5, 0, 90);
+        y.unseal(5, 0);
+        y.slow(5, 0, 90);
         y.need(5, 0, 1);
         passDays(y, 28);
         y.read(5, 0);

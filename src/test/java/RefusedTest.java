@@ -85,7 +85,7 @@ public final class RefusedTest {
         refuses("lay where one is broken", x -> x.breaks(0, 0), x -> x.lay(0, 0, 5));
         refuses("lay a pipe undug", RefusedTest::nothing, x -> x.lay(1, 3, 5));
         refuses("lay a main undug", RefusedTest::nothing, x -> x.lay(2, 3, 5));
-        refuses("lay a main filled again", x -> x.hire(dug(x, 3), false), x -> x.lay(2, 3, 5));
+        refuses("lay a main filled again", RefusedTest::filled, x -> x.lay(2, 3, 5));
         ahead("lay", RefusedTest::nothing, Edges.NO_RANGE, x -> x.lay(0, 0, 0));
         ahead("lay", RefusedTest::nothing, Edges.NO_RANGE, x -> x.lay(1, 3, 1000));
         ahead("lay", RefusedTest::nothing, Edges.NO_THING, x -> x.lay(3, 0, 0));
@@ -94,12 +94,13 @@ public final class RefusedTest {
         Edges.dig(x, 3);
         Edges.due("a pipe", x.lay(1, 3, 1), 8);
         Edges.due("a main", x.lay(2, 3, 1), 5);
-        Edges.due("a line in a dug street", x.lay(0, dug(x, 4), 1), 13);
+        Edges.dig(x, 4);
+        Edges.due("a line in a dug street", x.lay(0, 4, 1), 13);
     }
 
-    private static int dug(UtilityWorks x, int street) {
-        Edges.dig(x, street);
-        return street;
+    private static void filled(UtilityWorks x) {
+        Edges.dig(x, 3);
+        x.hire(3, false);
     }
 
     /** breaks: if there is no LINK of that GOOD in it. */
@@ -204,9 +205,19 @@ public final class RefusedTest {
         refuses("tomorrow", x -> x.permit(0, 3, 1, 9), x -> x.hire(3, true));
         refuses("another street", x -> x.permit(0, 4, 0, 9), x -> x.hire(3, true));
         refuses("dropped", x -> x.drop(x.permit(0, 3, 0, 9)), x -> x.hire(3, true));
-        refuses("yesterday", x -> x.pass(1 + x.permit(0, 3, 0, 1)), x -> x.hire(3, true));
-        refuses("dug already", x -> x.hire(x.permit(0, 0, 0, 9), true), x -> x.hire(0, true));
+        refuses("yesterday", RefusedTest::permittedYesterday, x -> x.hire(3, true));
+        refuses("dug already", RefusedTest::dugByPermit, x -> x.hire(3, true));
         ahead("hire", RefusedTest::nothing, Edges.NO_THING, x -> x.hire(17, true));
+    }
+
+    private static void permittedYesterday(UtilityWorks x) {
+        x.permit(0, 3, 0, 1);
+        x.pass(1);
+    }
+
+    private static void dugByPermit(UtilityWorks x) {
+        x.permit(0, 3, 0, 9);
+        x.hire(3, true);
     }
 
     /** hire: if it is not DUG, when they are to fill. */
@@ -222,10 +233,15 @@ public final class RefusedTest {
     static void plantsAreAtMost4() {
         refuses("one stands there", RefusedTest::nothing, x -> x.plant(11, 1));
         refuses("one stands there, down", x -> x.start(0, false), x -> x.plant(0, 1));
-        refuses("there are 4", x -> x.plant(x.plant(5, 1), 1), x -> x.plant(6, 1));
+        refuses("there are 4", RefusedTest::fourPlants, x -> x.plant(6, 1));
         ahead("plant", RefusedTest::nothing, Edges.NO_RANGE, x -> x.plant(11, 0));
-        ahead("plant", x -> x.plant(x.plant(5, 1), 1), Edges.NO_RANGE, x -> x.plant(6, 301));
-        ahead("plant", x -> x.plant(x.plant(5, 1), 1), Edges.NO_THING, x -> x.plant(12, 301));
+        ahead("plant", RefusedTest::fourPlants, Edges.NO_RANGE, x -> x.plant(6, 301));
+        ahead("plant", RefusedTest::fourPlants, Edges.NO_THING, x -> x.plant(12, 301));
+    }
+
+    private static void fourPlants(UtilityWorks x) {
+        Edges.due("plant", x.plant(5, 1), 2);
+        Edges.due("plant", x.plant(2, 1), 3);
     }
 
     /** well: if there are 3, or one stands there. */
@@ -241,7 +257,11 @@ public final class RefusedTest {
 
     /** tank: if there are 4, or one stands there. */
     static void tanksAreAtMost4() {
-        Edges.Change all = x -> x.tank(x.tank(x.tank(0, 9, 0), 9, 0), 9, 0);
+        Edges.Change all = x -> {
+            for (int crossing = 0; crossing < 3; crossing++) {
+                Edges.due("tank", x.tank(crossing, 9, 0), crossing + 1);
+            }
+        };
         refuses("one stands there", RefusedTest::nothing, x -> x.tank(3, 1, 1));
         refuses("there are 4", all, x -> x.tank(4, 1, 1));
         ahead("tank", RefusedTest::nothing, Edges.NO_RANGE, x -> x.tank(3, 1, 2));
@@ -305,12 +325,17 @@ public final class RefusedTest {
     static void metersAreSealedOrNot() {
         refuses("unseal again", x -> x.unseal(2, 1), x -> x.unseal(2, 1));
         refuses("seal at first", RefusedTest::nothing, x -> x.seal(2, 1));
-        refuses("seal again", x -> x.seal(2, x.unseal(2, 0)), x -> x.seal(2, 0));
+        refuses("seal again", RefusedTest::sealedAgain, x -> x.seal(2, 0));
         refuses("slow at first", RefusedTest::nothing, x -> x.slow(2, 1, 0));
         refuses("slow another one", x -> x.unseal(2, 1), x -> x.slow(2, 0, 5));
-        refuses("slow sealed again", x -> x.seal(2, x.unseal(2, 0)), x -> x.slow(2, 0, 5));
+        refuses("slow sealed again", RefusedTest::sealedAgain, x -> x.slow(2, 0, 5));
         ahead("slow", RefusedTest::nothing, Edges.NO_RANGE, x -> x.slow(2, 1, 91));
         ahead("slow", RefusedTest::nothing, Edges.NO_THING, x -> x.slow(6, 1, 91));
+    }
+
+    private static void sealedAgain(UtilityWorks x) {
+        x.unseal(2, 0);
+        x.seal(2, 0);
     }
 
     /** split: if the CUSTOMER has a PLAN, or OWES less than parts. */
@@ -341,20 +366,29 @@ public final class RefusedTest {
     /** fund: if there is less MONEY. */
     static void fundFromTheMoney() {
         refuses("less money", x -> x.fund(60000), x -> x.fund(40001));
-        refuses("no money", x -> x.fund(1 + 0 * (int) x.fund(99999)), x -> x.fund(1));
+        refuses("no money", RefusedTest::funded, x -> x.fund(1));
         ahead("fund", x -> x.fund(60000), Edges.NO_RANGE, x -> x.fund(100000));
         UtilityWorks x = made(y -> y.fund(60000));
         Edges.due("all of it", x.fund(40000), 100000);
         Edges.due("money", x.journal(0), 0);
-        UtilityWorks y = made(z -> z.fund(1 + 0 * (int) z.fund(99999)));
+        UtilityWorks y = made(RefusedTest::funded);
         y.pass(1);
         Edges.due("below 0", y.journal(0), -200);
         Edges.refused("below 0", Edges.NO_STATE, () -> y.fund(1));
     }
 
+    private static void funded(UtilityWorks x) {
+        x.fund(99999);
+        x.fund(1);
+        Edges.due("money", x.journal(0), 0);
+    }
+
     /** crew: if there are 4. */
     static void crewsAreAtMost4() {
-        Edges.Change all = x -> Edges.due("crew", x.crew(x.crew(0, 1, 1), 31, 4), 3);
+        Edges.Change all = x -> {
+            Edges.due("crew", x.crew(0, 1, 1), 2);
+            Edges.due("crew", x.crew(2, 31, 4), 3);
+        };
         refuses("there are 4", all, x -> x.crew(0, 1, 1));
         ahead("crew", all, Edges.NO_RANGE, x -> x.crew(0, 32, 1));
         ahead("crew", all, Edges.NO_RANGE, x -> x.crew(0, 1, 5));

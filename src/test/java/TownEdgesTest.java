@@ -331,6 +331,63 @@ public final class TownEdgesTest {
         x.pass(33);
     }
 
+    /** Nothing changes by what only tells, though it looks at what would be. */
+    static void askingChangesNothing() {
+        List<String> due = View.of(TownEdgesTest::storm);
+        List<String> then = View.of(() -> goneOn(storm()));
+        View.same("asked", View.of(() -> asked(storm())), due);
+        View.same("asked, then", View.of(() -> goneOn(asked(storm()))), then);
+    }
+
+    /** A town in which much is BROKEN, OFF, TRIPPED, SHED and owed. */
+    private static UtilityWorks storm() {
+        UtilityWorks x = kept();
+        x.lay(0, 3, 60);
+        x.breaks(0, 10);
+        x.breaks(0, 16);
+        x.breaks(1, 14);
+        x.breaks(2, 9);
+        x.turn(0, 11, false);
+        x.bound(0, 0, 9);
+        x.draws(5);
+        x.pass(2);
+        x.bound(0, 9, 9);
+        return x;
+    }
+
+    private static UtilityWorks goneOn(UtilityWorks x) {
+        x.pass(29);
+        return x;
+    }
+
+    private static UtilityWorks asked(UtilityWorks x) {
+        for (int what = 0; what < 4; what++) {
+            x.mending(what);
+            x.switching(what % 2);
+        }
+        for (int s = 0; s < 17; s++) {
+            int street = s;
+            for (int g = 0; g < 3; g++) {
+                int good = g;
+                Edges.told(() -> x.gain(good, street));
+            }
+            Edges.told(() -> x.waterWithout(street));
+            Edges.told(() -> x.heatWithout(street));
+            Edges.told(() -> x.flowAnew(street));
+        }
+        for (int customer = 0; customer < 6; customer++) {
+            x.billNow(customer);
+            x.notice(customer, 0);
+        }
+        x.nextJob(0);
+        x.nextJob(1);
+        x.firstFree(3, 9);
+        x.content();
+        x.lostAnew();
+        Edges.due("sound", x.isSound(), true);
+        return x;
+    }
+
     /** The two images are kept for themselves; one can be kept again, and is that one then. */
     static void imagesAreKeptForThemselves() {
         UtilityWorks x = new UtilityWorks();
