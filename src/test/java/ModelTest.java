@@ -325,6 +325,15 @@ public final class ModelTest {
         return alike;
     }
 
+    /** Lets so many DAYS go by that the last one is near, or the WHEELS have gone round. */
+    private static boolean age(int run, UtilityWorks x, Model model, Random random) {
+        boolean alike = compare(run, -1, x, model, named("need"), new Object[] {random.nextInt(6), 0, 20});
+        for (int left = 480 + random.nextInt(515); alike && left > 0; left -= 60) {
+            alike = compare(run, -1, x, model, named("pass"), new Object[] {Math.min(60, left)});
+        }
+        return alike;
+    }
+
     private static void run(int number) {
         Random random = new Random(SEED * 1000003 + number);
         UtilityWorks x = new UtilityWorks();
@@ -336,6 +345,9 @@ public final class ModelTest {
         part = random.nextInt(PARTS.size() + 1);
         List<String> changing = part < PARTS.size() ? PARTS.get(part) : CHANGING;
         if (part <= HEAT && !layMore(number, x, model, random)) {
+            return;
+        }
+        if (number % 6 == 5 && !age(number, x, model, random)) {
             return;
         }
         for (int n = 0; n < CALLS; n++) {
