@@ -591,6 +591,149 @@ public final class BooksEdgesTest {
         Edges.due("it stays", x.billIs(5, 0, 6), 2);
     }
 
+    /** What is left is CREDIT: it grows by each payment. */
+    static void creditGrows() {
+        UtilityWorks x = one();
+        Edges.due("pay", x.pay(5, 10), -10);
+        Edges.due("pay again", x.pay(5, 7), -17);
+        Edges.due("owed", x.journal(1), -17);
+        Edges.due("paid", x.journal(4), 17);
+        Edges.due("another one", x.pay(4, 5), -5);
+        Edges.due("owed by all", x.journal(1), -22);
+        Edges.due("sound", x.isSoundBooks(), true);
+    }
+
+    /** PAID IN: 0 without a PLAN, though one FAILED; from 0 on in the next one. */
+    static void paidInWithoutAPlan() {
+        UtilityWorks x = billed();
+        Edges.due("without one", x.planIs(5, 2), 0);
+        x.pay(5, 3);
+        Edges.due("none ahead of any", x.planIs(5, 2), 0);
+        x.split(5, 2);
+        x.pay(5, 9);
+        Edges.due("paid in", x.planIs(5, 2), 9);
+        Edges.passTo(x, 41);
+        Edges.due("failed", x.planIs(5, 3) * 10 + x.planIs(5, 0), 10);
+        Edges.due("none of one that failed", x.planIs(5, 2), 0);
+        x.pay(5, 5);
+        Edges.due("none behind it", x.planIs(5, 2), 0);
+        x.split(5, 2);
+        Edges.due("none in a new one", x.planIs(5, 2), 0);
+        x.pay(5, 4);
+        Edges.due("paid in", x.planIs(5, 2), 4);
+    }
+
+    /** PAID IN is what was paid: CREDIT that a BILL brings pays what is OPEN, but is not PAID IN. */
+    static void creditIsNotPaidIn() {
+        UtilityWorks x = one();
+        x.unseal(5, 0);
+        x.slow(5, 0, 90);
+        x.pass(30);
+        x.read(5, 0);
+        Edges.due("first instalment", x.split(5, 6), FIRST - 5 * (FIRST / 6));
+        x.pay(5, 1800);
+        Edges.passTo(x, 60);
+        long open = FIRST - 1800;
+        Edges.due("sum", x.billIs(5, 1, 6), -3340);
+        Edges.due("open", x.billIs(5, 0, 7), open + open / 100 - 3340);
+        Edges.due("paid in", x.planIs(5, 2), 1800);
+        Edges.due("it goes on", x.planIs(5, 0), 6);
+        x.pass(1);
+        Edges.due("and fails", x.planIs(5, 3), 1);
+    }
+
+    /** METERED is COUNTED less what that was: what was estimated by hand ahead of the BILL, too. */
+    static void estimatedByHandAheadOfTheBill() {
+        UtilityWorks x = one();
+        x.pass(10);
+        Edges.due("estimate", x.estimate(5, 0), 70);
+        Edges.due("now", x.billNow(5), 300 + 70 * 20);
+        x.pass(5);
+        Edges.due("with five more", x.billNow(5), 300 + 100 * 20 + 5 * 30);
+        x.pass(15);
+        Edges.due("item", x.billIs(5, 0, 1), FIRST);
+        x.pass(1);
+        x.estimate(5, 0);
+        x.pass(29);
+        Edges.due("the next one", x.billIs(5, 1, 1), 300 + 100 * 20 + (30 * 7 - 100) * 30);
+    }
+
+    /** GIVEN is what the FUND gave in all. */
+    static void givenInAll() {
+        UtilityWorks x = one();
+        x.connect(1, 0, true);
+        tariff(x, 0, 300, 0, 0, 0);
+        x.poor(1, true);
+        x.poor(5, true);
+        x.fund(1000);
+        x.pass(30);
+        Edges.due("to both", x.journal(5), 300);
+        x.alarm(true);
+        x.pass(30);
+        Edges.due("to both twice", x.journal(5), 600);
+        Edges.due("fund", x.journal(2), 400);
+        Edges.due("sound", x.isSoundBooks(), true);
+    }
+
+    /** The INTEREST is of what is OPEN of each BILL for itself. */
+    static void interestOfEachBill() {
+        UtilityWorks x = one();
+        tariff(x, 0, 150, 0, 0, 0);
+        x.alarm(true);
+        Edges.passTo(x, 90);
+        Edges.due("the first", x.billIs(5, 0, 7), 152);
+        Edges.due("the second", x.billIs(5, 1, 7), 151);
+        Edges.due("the third", x.billIs(5, 2, 7), 150);
+        Edges.due("earned", x.journal(3), 453);
+        leave(x, 5, 301);
+        x.pass(30);
+        Edges.due("what is paid bears none", x.billIs(5, 0, 7), 0);
+        Edges.due("the second", x.billIs(5, 1, 7), 152);
+        Edges.due("the third", x.billIs(5, 2, 7), 151);
+    }
+
+    /** The INTEREST comes in a PLAN, too; the INSTALMENTS stay. */
+    static void interestInAPlan() {
+        UtilityWorks x = billed();
+        leave(x, 5, 1000);
+        Edges.due("first instalment", x.split(5, 6), 170);
+        x.pay(5, 500);
+        Edges.passTo(x, 60);
+        Edges.due("five more", x.billIs(5, 0, 7), 505);
+        Edges.due("it goes on", x.planIs(5, 0), 6);
+        x.pay(5, 499);
+        Edges.due("a cent is missing", x.planIs(5, 0), 6);
+        x.pay(5, 1);
+        Edges.due("all instalments are paid in", x.planIs(5, 0), 0);
+        Edges.due("though some is open", x.billIs(5, 0, 7), 5);
+    }
+
+    /** JOBS of another KIND for it, or in a STREET of its number, do not keep from the one to CUT it. */
+    static void cutInSpiteOfOtherJobs() {
+        UtilityWorks x = billed();
+        x.alarm(true);
+        x.job(4, 0, 5, 0);
+        x.job(0, 0, 5, 0);
+        x.job(6, 0, 5, 0);
+        Edges.passTo(x, 71);
+        Edges.due("told", x.jobIs(3, 0) * 10 + x.jobIs(3, 2), 55);
+        leave(x, 5, 0);
+        x.dropJob(3);
+        x.pass(1);
+        Edges.refused("no other one", Edges.NO_THING, () -> x.jobIs(4, 0));
+    }
+
+    /** Who is made not CONNECTED by hand stays CUT, and is CONNECTED again. */
+    static void notConnectedByHandStaysCut() {
+        UtilityWorks x = cut();
+        Edges.due("it is not connected", x.connect(5, 0, false), false);
+        Edges.due("cut", x.notice(5, 1), 1);
+        leave(x, 5, 0);
+        x.pass(2);
+        Edges.due("connected", x.customerIs(5, 2), 1);
+        Edges.due("cut from none", x.notice(5, 1), 0);
+    }
+
     public static void main(String[] args) {
         Edges.runAll(BooksEdgesTest.class);
     }

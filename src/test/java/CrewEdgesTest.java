@@ -667,6 +667,56 @@ public final class CrewEdgesTest {
         }
     }
 
+    /** With its last SPELL a JOB does what its KIND is, and no more. */
+    static void aJobDoesNoMore() {
+        UtilityWorks x = new UtilityWorks();
+        Edges.dig(x, 0);
+        x.breaks(0, 0);
+        x.breaks(1, 0);
+        x.job(FILL, 0, 0, 9);
+        x.pass(1);
+        Edges.due("filled", x.streetIs(0, 3), 0);
+        Edges.due("the links are broken still", x.linkIs(0, 0, 2) + x.linkIs(1, 0, 2), 0);
+        x.permit(0, 0, 1, 1);
+        x.job(DIG, 0, 0, 9);
+        x.pass(1);
+        Edges.due("dug", x.streetIs(0, 3), 1);
+        Edges.due("filled last", x.streetIs(0, 6), 0);
+        x.job(MEND, 1, 0, 9);
+        x.pass(2);
+        Edges.due("mended", x.linkIs(1, 0, 2) * 1000 + x.linkIs(1, 0, 1), 1040);
+        Edges.due("the other one is broken still", x.linkIs(0, 0, 2), 0);
+        Edges.due("dug still", x.streetIs(0, 3), 1);
+        x.job(LAY, 0, 3, 9);
+        x.job(READ, 0, 3, 0);
+        x.dropJob(4);
+        x.pass(5);
+        Edges.due("laid", x.linkIs(0, 3, 0), 1);
+        for (int customer = 0; customer < 6; customer++) {
+            Edges.due("nothing was read", x.meterIs(customer, 0, 4), -1);
+        }
+        x.job(READ, 0, 3, 9);
+        x.pass(2);
+        Edges.due("read", x.meterIs(3, 0, 5), 1);
+        Edges.due("connected as it was", x.customerIs(3, 2), 7);
+    }
+
+    /** nextJob tells the JOB that a CREW has, in an ALARM, too; one without a JOB would take one to MEND. */
+    static void nextJobInAnAlarm() {
+        UtilityWorks x = new UtilityWorks();
+        x.job(LAY, 0, 3, 9);
+        x.pass(1);
+        crew(x, 0, 4, 0, 1);
+        x.breaks(0, 9);
+        x.job(MEND, 0, 9, 0);
+        x.alarm(true);
+        Edges.due("the job that it has", x.nextJob(0), 0);
+        x.leave(0);
+        Edges.due("the one that it would take", x.nextJob(0), 1);
+        x.alarm(false);
+        Edges.due("without an alarm", x.nextJob(0), 0);
+    }
+
     public static void main(String[] args) {
         Edges.runAll(CrewEdgesTest.class);
     }

@@ -467,6 +467,45 @@ public final class HeatEdgesTest {
         }
     }
 
+    /** heatAt 2: how many of its CUSTOMERS get less than wanted, not of others. */
+    static void lackingAtTheirOwnCrossing() {
+        UtilityWorks x = Edges.quiet();
+        x.weather(8, 0, 0);
+        x.connect(0, 2, true);
+        x.connect(1, 2, true);
+        x.connect(3, 2, true);
+        Edges.customer(x, 4, 0, 2, 1);
+        int[] due = {0, 1, 0, 0, 2, 1, 0, 0, 0, 0, 0, 0};
+        for (int c = 0; c < 12; c++) {
+            Edges.due("at " + c, x.heatAt(c, 2), due[c]);
+        }
+    }
+
+    /** WARMTH: less only if it is above the TEMPERATURE. */
+    static void warmthBelowTheTemperature() {
+        UtilityWorks x = Edges.quiet();
+        x.connect(0, 2, true);
+        int[][] rows = {{-30, 6}, {-30, -3}, {-30, -10}, {10, -10}, {-2, -10}, {-10, -10}, {-11, -11}, {-15, -12},
+            {-12, -12}};
+        for (int[] r : rows) {
+            x.weather(r[0], 0, 0);
+            Edges.due("it wants some", x.heatAt(5, 0) > 0, true);
+            x.pass(1);
+            Edges.due("behind a day of " + r[0], x.warmth(0), r[1]);
+        }
+        Edges.due("chilled on each", x.heatSum(4), rows.length);
+    }
+
+    /** A MAIN that does not LEAD takes nothing in, so the room for its BOUND is left. */
+    static void roomOfAMainThatDoesNotLead() {
+        UtilityWorks x = new UtilityWorks();
+        Edges.due("of one that leads", x.mainIs(10, 0) * 100 + x.mainIs(10, 3), 921);
+        x.turn(2, 10, false);
+        Edges.due("off", x.mainIs(10, 0) * 100 + x.mainIs(10, 3), 30);
+        x.breaks(2, 10);
+        Edges.due("broken", x.mainIs(10, 0) * 100 + x.mainIs(10, 3), 30);
+    }
+
     public static void main(String[] args) {
         Edges.runAll(HeatEdgesTest.class);
     }

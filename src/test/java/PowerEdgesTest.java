@@ -447,6 +447,37 @@ public final class PowerEdgesTest {
         }
     }
 
+    /** The FLOW is below 0, if it goes from the upper CROSSING: also where that is further from the PLANT by others. */
+    static void theFlowOnALineThatLeadsBack() {
+        UtilityWorks x = Edges.quiet();
+        x.start(1, false);
+        x.turn(0, 0, false);
+        x.lay(0, 3, 60);
+        x.turn(0, 3, true);
+        x.connect(1, 0, true);
+        x.connect(2, 0, true);
+        int[][] flows = {{0, 0}, {9, 11}, {3, 11}, {10, -11}, {1, 5}, {2, 5}, {11, 0}, {14, 0}};
+        for (int[] r : flows) {
+            Edges.due("flow on " + r[0], x.lineIs(r[0], 0), r[1]);
+            Edges.due("found anew on " + r[0], x.flowAnew(r[0]), r[1]);
+        }
+        Edges.due("sound", x.isSoundPower(), true);
+    }
+
+    /** linkIs and joined tell of the LINES as they are now; lineIs 1 and powerAt of them behind all TRIPS. */
+    static void whatWouldTripLeadsNow() {
+        UtilityWorks x = new UtilityWorks();
+        x.bound(0, 0, 26);
+        Edges.due("it leads now", x.linkIs(0, 0, 4), 1);
+        Edges.due("on now", x.linkIs(0, 0, 3), 1);
+        Edges.due("joined now", x.joined(0, 0, 1), true);
+        Edges.due("not behind all trips", x.lineIs(0, 1), 0);
+        Edges.due("another island then", x.powerAt(1, 2), 1);
+        x.pass(1);
+        Edges.due("it does not lead any more", x.linkIs(0, 0, 4) * 10 + x.linkIs(0, 0, 3), 0);
+        Edges.due("nor is joined", x.joined(0, 0, 1), false);
+    }
+
     public static void main(String[] args) {
         Edges.runAll(PowerEdgesTest.class);
     }

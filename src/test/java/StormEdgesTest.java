@@ -497,6 +497,39 @@ public final class StormEdgesTest {
         Edges.due("sound", x.isSound(), true);
     }
 
+    /** alarm: whether there was one; weatherIs 5 tells whether there is one, whatever STORMS there are. */
+    static void theAlarmIsTold() {
+        UtilityWorks x = new UtilityWorks();
+        Edges.due("none", x.weatherIs(5) * 10 + x.weatherIs(6), 0);
+        Edges.due("alarm", x.alarm(true), false);
+        Edges.due("one", x.weatherIs(5) * 10 + x.weatherIs(6), 10);
+        x.storm(0, 1);
+        x.storm(1, 1);
+        Edges.due("with storms", x.weatherIs(5) * 10 + x.weatherIs(6), 12);
+        x.pass(1);
+        Edges.due("it goes on", x.weatherIs(5) * 10 + x.weatherIs(6), 12);
+        Edges.due("alarm", x.alarm(false), true);
+        Edges.due("ended", x.weatherIs(5) * 10 + x.weatherIs(6), 2);
+    }
+
+    /** stormIs 3: a LINE with an end under two STORMS counts for both; one broken at its other end, too. */
+    static void linesUnderTwoStormsAndBesideOne() {
+        UtilityWorks x = new UtilityWorks();
+        x.weather(10, 0, 0);
+        x.storm(0, 9);
+        x.storm(1, 9);
+        x.pass(1);
+        Edges.due("broken", x.count(4), 3);
+        Edges.due("of both", x.stormIs(0, 3) * 10 + x.stormIs(1, 3), 33);
+        Edges.due("each is reported once", x.report(0), 3);
+        UtilityWorks y = new UtilityWorks();
+        y.weather(10, 9, 0);
+        y.storm(0, 1);
+        y.pass(1);
+        Edges.due("all but the one between 0 and 4", y.count(4) * 10 + y.linkIs(0, 9, 2), 101);
+        Edges.due("those from 0 to 1 and from 4 to 8, by the wind", y.stormIs(0, 3), 2);
+    }
+
     public static void main(String[] args) {
         Edges.runAll(StormEdgesTest.class);
     }

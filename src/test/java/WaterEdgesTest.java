@@ -570,6 +570,42 @@ public final class WaterEdgesTest {
         Edges.due("sound", x.isSoundWater(), true);
     }
 
+    /** The LEAK of a PIPE that does not LEAD takes nothing of what its CROSSING GETS. */
+    static void aLeakOfAPipeThatDoesNotLead() {
+        UtilityWorks x = Edges.quiet();
+        Edges.layUnder(x, 1, 11, 40);
+        x.leak(11, 9);
+        int customer = Edges.customer(x, 2, 0, 1, 5);
+        Edges.due("it leads", x.waterAt(2, 0) * 1000 + x.waterAt(2, 2) * 10 + x.waterAt(2, 4), 14095);
+        x.turn(1, 11, false);
+        for (int broken = 0; broken < 2; broken++) {
+            Edges.due("wants", x.waterAt(2, 0), 5);
+            Edges.due("gets", x.waterAt(2, 1), 5);
+            Edges.due("runs out", x.waterAt(2, 2), 0);
+            Edges.due("to the customer", x.waterAt(2, 4), 5);
+            Edges.due("content", x.content(), 7);
+            x.breaks(1, 11);
+        }
+        x.pass(1);
+        Edges.due("got", x.customerIs(customer, 7), 5);
+        Edges.due("leaks took", x.waterSum(3), 0);
+    }
+
+    /** fire: for this CROSSING alone, not for one ahead of it that lacked some. */
+    static void aFireForItsCrossingAlone() {
+        UtilityWorks x = Edges.quiet();
+        x.bound(1, 2, 5);
+        Edges.due("as the pipe has room", x.fire(2, 20), 5);
+        Edges.due("another one", x.fire(3, 1), 1);
+        Edges.due("level", x.tankIs(0, 2), 144);
+        Edges.due("fires", x.waterSum(5), 6);
+        Edges.due("with the room anew", x.fire(2, 20), 5);
+        x.connect(2, 1, true);
+        Edges.due("a fire leaves the room of the day", x.pipeIs(2, 4), 5);
+        Edges.due("level", x.tankIs(0, 2), 139);
+        Edges.due("sound", x.isSoundWater(), true);
+    }
+
     public static void main(String[] args) {
         Edges.runAll(WaterEdgesTest.class);
     }
