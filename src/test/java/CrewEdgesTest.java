@@ -717,6 +717,32 @@ public final class CrewEdgesTest {
         Edges.due("without an alarm", x.nextJob(0), 0);
     }
 
+    /** By its PACE, with OVERTIME, too; a WAY has up to 11 STREETS. */
+    static void theLongestWayByItsPace() {
+        for (int overtime = 0; overtime < 2; overtime++) {
+            UtilityWorks x = new UtilityWorks();
+            for (int s : new int[] {9, 10, 11, 14, 15, 16}) {
+                Edges.dig(x, s);
+            }
+            x.breaks(0, 9);
+            x.alarm(true);
+            int crew = x.crew(11, 1, 3);
+            x.job(MEND, 0, 9, 9);
+            x.overtime(crew, overtime == 1);
+            Edges.due("the crew 0 is there already", x.crewIs(0, 0), 0);
+            Edges.due("eleven streets", x.way(11, 0), 11);
+            x.job(MEND, 0, 0, 0);
+            Edges.due("the crew 0 takes the more urgent one", x.nextJob(0), 0);
+            int[] at = {8, 6, 2, 0};
+            x.breaks(0, 0);
+            for (int day = 0; day < 4; day++) {
+                x.pass(1);
+                Edges.due("the other one on the day " + day, x.crewIs(crew, 0), at[day]);
+            }
+            Edges.due("a spell on the day on which it is there", x.crewIs(crew, 4) + 2 * x.crewIs(crew, 6), 1 + overtime);
+        }
+    }
+
     public static void main(String[] args) {
         Edges.runAll(CrewEdgesTest.class);
     }

@@ -506,6 +506,20 @@ public final class HeatEdgesTest {
         Edges.due("broken", x.mainIs(10, 0) * 100 + x.mainIs(10, 3), 30);
     }
 
+    /** It BURNS, if it gets all the WATER that it NEEDS: what a LEAK at its CROSSING takes ahead of it is not its own. */
+    static void aLeakTakesTheWaterOfTheBoiler() {
+        UtilityWorks x = warm();
+        x.reserve(0, 140);
+        Edges.due("it lacks nothing", x.boilerIs(0, 5), 0);
+        x.leak(10, 4);
+        Edges.due("4 and 6 of 10", x.waterAt(1, 1) * 100 + x.waterAt(1, 3), 1006);
+        Edges.due("it lacks nothing", x.boilerIs(0, 5), 0);
+        x.leak(10, 5);
+        Edges.due("5 and 5 of 10", x.waterAt(1, 1) * 100 + x.waterAt(1, 3), 1005);
+        Edges.due("it lacks water", x.boilerIs(0, 5), 3);
+        Edges.due("it makes none", x.boilerIs(0, 6), 0);
+    }
+
     public static void main(String[] args) {
         Edges.runAll(HeatEdgesTest.class);
     }

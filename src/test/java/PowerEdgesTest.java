@@ -478,6 +478,43 @@ public final class PowerEdgesTest {
         Edges.due("nor is joined", x.joined(0, 0, 1), false);
     }
 
+    /** TRIPPED until it is turned ON: not by being turned OFF, nor broken, nor mended. */
+    static void trippedThoughBrokenAndMended() {
+        UtilityWorks x = new UtilityWorks();
+        x.bound(0, 0, 26);
+        x.pass(1);
+        Edges.due("tripped", x.lineIs(0, 2), 1);
+        x.turn(0, 0, false);
+        Edges.due("turned off", x.lineIs(0, 2), 1);
+        x.breaks(0, 0);
+        Edges.due("broken", x.lineIs(0, 2), 1);
+        x.job(2, 0, 0, 9);
+        x.pass(2);
+        Edges.due("mended", x.linkIs(0, 0, 2) * 100 + x.linkIs(0, 0, 3) * 10 + x.lineIs(0, 2), 101);
+        x.breaks(0, 0);
+        x.turn(0, 0, true);
+        Edges.due("turned on though broken", x.lineIs(0, 2), 0);
+        x.turn(0, 0, false);
+        Edges.due("off by hand is not tripped", x.lineIs(0, 2), 0);
+    }
+
+    /** SWITCHING: of the first five that are SOUND and OFF; one that is BROKEN is none of these. */
+    static void aBrokenLineIsNoneOfTheFive() {
+        UtilityWorks x = Edges.quiet();
+        x.start(0, false);
+        x.connect(4, 0, true);
+        x.plant(5, 20);
+        for (int s : new int[] {0, 1, 2, 9, 11, 14}) {
+            x.turn(0, s, false);
+        }
+        Edges.due("it is the sixth", x.switching(1), 0);
+        x.breaks(0, 0);
+        Edges.due("one ahead of it is broken", x.switching(1), 1 << 14);
+        Edges.due("worth", x.switching(0), 4);
+        x.turn(0, 1, true);
+        Edges.due("one ahead of it is on", x.switching(1), 1 << 14);
+    }
+
     public static void main(String[] args) {
         Edges.runAll(PowerEdgesTest.class);
     }

@@ -422,6 +422,21 @@ public final class StreetEdgesTest {
         }
     }
 
+    /** REASON 4: by the DAY on which it was filled last, whatever its SURFACE was then, and was since. */
+    static void filledUnderAnotherSurface() {
+        UtilityWorks x = new UtilityWorks();
+        x.pass(3);
+        Edges.dig(x, 3);
+        x.hire(3, false);
+        for (int surface = 1; surface >= 0; surface--) {
+            x.surface(3, 2);
+            Edges.due("asphalt", x.may(3, 22, 1) * 10 + x.may(3, 23, 1), 40);
+            x.surface(3, surface);
+            Edges.due("not asphalt", x.may(3, 3, 1), 0);
+            Edges.due("filled last", x.streetIs(3, 6), 3);
+        }
+    }
+
     public static void main(String[] args) {
         Edges.runAll(StreetEdgesTest.class);
     }

@@ -606,6 +606,36 @@ public final class WaterEdgesTest {
         Edges.due("sound", x.isSoundWater(), true);
     }
 
+    /** A WELL ahead of another one by its number, whatever they yield. */
+    static void theFirstSourceThoughItHasLess() {
+        UtilityWorks x = Edges.quiet();
+        x.turn(1, 2, false);
+        x.pump(1, true);
+        x.well(0, 99, 50);
+        Edges.customer(x, 1, 0, 1, 20);
+        Edges.customer(x, 1, 0, 1, 7);
+        Edges.due("all of the well 1, the rest of the well 2", x.wellIs(1, 5) * 100 + x.wellIs(2, 5), 2007);
+    }
+
+    /** breaks and a JOB to MEND leave the LEAK and the STRAIN of a PIPE, and whether it is ON. */
+    static void brokenAndMendedWithItsLeakAndStrain() {
+        UtilityWorks x = new UtilityWorks();
+        x.weather(-20, 0, 0);
+        x.leak(0, 7);
+        x.turn(1, 0, false);
+        x.pass(2);
+        Edges.due("strain", x.pipeIs(0, 1), 40);
+        x.breaks(1, 0);
+        Edges.due("broken", x.pipeIs(0, 0) * 100 + x.pipeIs(0, 1), 740);
+        x.weather(0, 0, 0);
+        Edges.dig(x, 0);
+        x.job(2, 1, 0, 9);
+        x.pass(2);
+        Edges.due("mended", x.linkIs(1, 0, 2) * 10 + x.linkIs(1, 0, 3), 10);
+        Edges.due("the strain of the day on which it is sound", x.pipeIs(0, 0) * 100 + x.pipeIs(0, 1), 735);
+        Edges.due("bound", x.linkIs(1, 0, 1), 40);
+    }
+
     public static void main(String[] args) {
         Edges.runAll(WaterEdgesTest.class);
     }
