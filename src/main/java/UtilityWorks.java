@@ -6,7 +6,7 @@ import java.util.Arrays;
  *
  * <p>Things that have numbers stand in tables, a row each, with the columns in the order in which the
  * thing's own ...Is call tells them; so a call often just tells a column. All rows are made once, in
- * constructors: no call makes an object.
+ * constructors: no call makes an object, but keep, the first time for each image.
  */
 public final class UtilityWorks {
     public static final int NONE = -1;
@@ -44,13 +44,13 @@ public final class UtilityWorks {
     };
 
     private final Town town;
+
+    /** An image is null until it is kept: most towns keep none, and a Town is large. */
     private final Town[] images;
-    private final boolean[] kept;
 
     public UtilityWorks() {
         town = new Town();
-        images = new Town[] {new Town(), new Town()};
-        kept = new boolean[2];
+        images = new Town[2];
     }
 
     // ---- the town
@@ -128,14 +128,16 @@ public final class UtilityWorks {
 
     public int keep(int image) throws IndexOutOfBoundsException {
         needThing(isWithin(image, 0, 1));
+        if (images[image] == null) {
+            images[image] = new Town();
+        }
         images[image].copyFrom(town);
-        kept[image] = true;
         return town.day;
     }
 
     public int bring(int image) throws IndexOutOfBoundsException, IllegalStateException {
         needThing(isWithin(image, 0, 1));
-        needState(kept[image]);
+        needState(images[image] != null);
         town.copyFrom(images[image]);
         return town.day;
     }

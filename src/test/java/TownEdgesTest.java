@@ -442,6 +442,18 @@ public final class TownEdgesTest {
         Edges.due("sound", x.isSound(), true);
     }
 
+    /** The example of README.md. */
+    static void theExampleOfTheReadme() {
+        UtilityWorks town = new UtilityWorks();
+        Edges.due("breaks", town.breaks(1, 10), true);
+        Edges.due("permit", town.permit(1, 10, 0, 9), 0);
+        Edges.due("dig", town.job(0, 1, 10, 9), 0);
+        Edges.due("mend", town.job(2, 1, 10, 5), 1);
+        Edges.due("pass", town.pass(4), 4);
+        Edges.due("sound again", town.linkIs(1, 10, 2), 1);
+        Edges.due("content", town.content(), 6);
+    }
+
     public static void main(String[] args) {
         Edges.runAll(TownEdgesTest.class);
     }
