@@ -128,17 +128,22 @@ public final class UtilityWorks {
 
     public int keep(int image) throws IndexOutOfBoundsException {
         needThing(isWithin(image, 0, 1));
-        if (images[image] == null) {
-            images[image] = new Town();
+        Town copy = images[image];
+        if (copy == null) {
+            copy = new Town();
+            images[image] = copy;
         }
-        images[image].copyFrom(town);
+        copy.copyFrom(town);
         return town.day;
     }
 
     public int bring(int image) throws IndexOutOfBoundsException, IllegalStateException {
         needThing(isWithin(image, 0, 1));
-        needState(images[image] != null);
-        town.copyFrom(images[image]);
+        Town copy = images[image];
+        if (copy == null) {
+            throw new IllegalStateException();
+        }
+        town.copyFrom(copy);
         return town.day;
     }
 
