@@ -140,9 +140,7 @@ public final class UtilityWorks {
     public int bring(int image) throws IndexOutOfBoundsException, IllegalStateException {
         needThing(isWithin(image, 0, 1));
         Town copy = images[image];
-        if (copy == null) {
-            throw new IllegalStateException();
-        }
+        needState(copy != null);
         town.copyFrom(copy);
         return town.day;
     }
